@@ -29,6 +29,8 @@ public final class DescriptionTest {
         delayedFull();
         delayedOperations();
         delayedErrors();
+        starter();
+        delayedInLoops();
         stack();
         queue();
         sumAndCell();
@@ -556,6 +558,51 @@ public final class DescriptionTest {
         DUE.is("comes all the same", u.step(3), 5);
         DUE.is("there", u.word(8, 1), 5);
         DUE.is("no error", u.thread(0, 3), 0);
+    }
+
+    private static void starter() {
+        // With ordered memory a start call sees the count of its own write, also after a run with late memory.
+        FreeShelf x = new FreeShelf();
+        Shelf.routine(x, 0, act(WRITE, 0, 0), act(READ, 1, 0), act(SET, 2, 7), act(SWAP, 0, 1, 2), act(RETURN, 5));
+        x.call(3, 0, 5);
+        x.call(0, 0, 5);
+        x.manner(2);
+        x.late(true);
+        for (int i = 0; i < 2; i++) {
+            x.begin();
+            DUE.is("the start call's swap", x.word(0, 1), 7);
+            DUE.is("two values", x.word(0, 3), 2);
+            Shelf.steps(x, 2);
+            DUE.is("late after that", x.local(0, 1, 3), 2);
+            DUE.is("explored too", x.explore() > 0 ? x.go(0) : -9, 0);
+            DUE.is("the start call's swap", x.word(0, 1), 7);
+        }
+        // Its guards and its epoch count.
+        FreeShelf y = new FreeShelf();
+        Shelf.routine(y, 0, act(TAKE, 1), act(GUARD, 1, 1), act(LET, 1), act(TAKE, 2), act(WRITE, 0, 2), act(RETURN, 0));
+        y.call(3, 0, 0);
+        y.call(0, 0, 0);
+        y.manner(3);
+        y.begin();
+        DUE.is("node 0 was guarded", y.word(0, 1), 1);
+        DUE.is("not any more", y.node(0), 0);
+        FreeShelf z = new FreeShelf();
+        Shelf.routine(z, 0, act(ENTER), act(TAKE, 1), act(LET, 1), act(TAKE, 2), act(LET, 2), act(RETURN, 0));
+        z.call(3, 0, 0);
+        z.call(0, 0, 0);
+        z.manner(4);
+        z.begin();
+        DUE.is("by the first let and the end of the call", z.epoch(), 2);
+        DUE.is("released in epoch 0", z.node(0), 0);
+        DUE.is("released in epoch 1", z.node(1), 2);
+    }
+
+    private static void delayedInLoops() {
+        FreeShelf x = begunWith(0, true, 1, 5, act(FENCE), act(SET, 1, 3), act(WRITE, 0, 1), act(GO, 0));
+        Shelf.steps(x, 1);
+        DUE.is("delayed", x.word(0, 0), 0);
+        Shelf.steps(x, 1);
+        DUE.is("the first act of routine 0 waits too", x.word(0, 1), 3);
     }
 
     /** Calls one after the other that put (argument from 1 on) or get (0), with answers by routine 1 or 2. */

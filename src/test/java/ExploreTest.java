@@ -1,3 +1,6 @@
+import java.util.HashSet;
+import java.util.Set;
+
 /** Promises 24 to 30: exploration. */
 public final class ExploreTest {
     private static final Due DUE = new Due("ExploreTest");
@@ -17,6 +20,8 @@ public final class ExploreTest {
         promise29Long();
         promise29Program();
         promise30();
+        promise30Many();
+        oneAfterTheOther();
         DUE.close();
     }
 
@@ -405,5 +410,57 @@ public final class ExploreTest {
         x.call(0, 0, 2);
         x.explore();
         DUE.is("30: in one order only", x.answers(), 1);
+    }
+
+    /** Two threads that add twice in a call, two calls each: many different results, counted here by a set of texts. */
+    private static void promise30Many() {
+        int most = 0;
+        for (int n = 1; n <= 15; n++) {
+            FreeShelf x = new FreeShelf();
+            Shelf.routine(x, 0, Shelf.act(Shelf.ADD, 0, n), Shelf.act(Shelf.ADD, 0, 7), Shelf.act(Shelf.RETURN, 5));
+            for (int i = 0; i < 4; i++) x.call(i / 2, 0, 0);
+            x.explore();
+            Set<String> results = new HashSet<>();
+            for (int i = 0; i < x.explored(1); i++) {
+                x.go(x.first(6 + i));
+                results.add(x.answer(0, 0) + " " + x.answer(0, 1) + " " + x.answer(1, 0) + " " + x.answer(1, 1));
+            }
+            DUE.is("30: results with " + n, x.answers(), results.size());
+            most = Math.max(most, results.size());
+        }
+        DUE.is("30: that were many", most > 30 ? 1 : 0, 1);
+    }
+
+    /** What an exploration has found does not last until the next one. */
+    private static void oneAfterTheOther() {
+        FreeShelf x = counters();
+        DUE.is("24: spent", x.explore(), -5);
+        DUE.is("26: cycles of the last states", x.first(4) > 0 || x.first(4) == -4 ? 1 : 0, 1);
+        x.clear();
+        Shelf.routine(x, 0, Shelf.act(Shelf.TAKE, 1), Shelf.act(Shelf.LET, 1), Shelf.act(Shelf.RETURN, 1));
+        x.call(0, 0, 0);
+        DUE.is("24: complete", x.explore(), 4);
+        DUE.is("25: complete", x.explored(7), 0);
+        DUE.is("25: one waits", x.explored(6), 1);
+        DUE.is("26: no cycle", x.first(4), -4);
+        DUE.is("26: none is stuck", x.first(3), -4);
+        Shelf.routine(x, 0, Shelf.act(Shelf.FENCE), Shelf.act(Shelf.FENCE), Shelf.act(Shelf.FENCE), Shelf.act(Shelf.GO, 1));
+        DUE.is("24: states", x.explore(), 3);
+        DUE.is("25: none waits", x.explored(6), 0);
+        DUE.is("26: a cycle of two", x.first(4), 1);
+        DUE.is("26: the same again", x.first(4), 1);
+        DUE.is("26: stuck", x.first(3), 1);
+        DUE.is("26: the same again", x.first(3), 1);
+        DUE.is("30: no result", x.answers(), 0);
+        Shelf.routine(x, 0, Shelf.act(Shelf.FENCE), Shelf.act(Shelf.FENCE), Shelf.act(Shelf.FENCE), Shelf.act(Shelf.FENCE),
+            Shelf.act(Shelf.GO, 2));
+        DUE.is("24: states", x.explore(), 4);
+        DUE.is("26: a later cycle", x.first(4), 2);
+        DUE.is("26: stuck before it", x.first(3), 1);
+        Shelf.routine(x, 0, Shelf.act(Shelf.FENCE), Shelf.act(Shelf.RETURN, 0));
+        DUE.is("24: states", x.explore(), 3);
+        DUE.is("26: no cycle", x.first(4), -4);
+        DUE.is("26: none is stuck", x.first(3), -4);
+        DUE.is("30: a result", x.answers(), 1);
     }
 }
