@@ -884,7 +884,7 @@ public final class FreeShelf {
             if (end.hasError()) return false;
             if (end.program.model == 0) return true;
             fillFirstShelf(end.program);
-            return extendOrder(end, 0, 0);
+            return extendOrder(end, shelves, 0, 0);
         }
 
         /** Whether an end keeps the moments. */
@@ -908,13 +908,13 @@ public final class FreeShelf {
         }
 
         /** Whether the calls that are not done yet can follow in some order; depth tells how many are done. */
-        private boolean extendOrder(Machine end, int depth, int done) {
+        private static boolean extendOrder(Machine end, int[][] shelves, int depth, int done) {
             if (depth >= end.program.total() || depth >= ALL_CALLS) return true;
             for (int slot = 0; slot < SLOTS; slot++) {
                 if (!canFollow(end, slot, done)) continue;
                 System.arraycopy(shelves[depth], 0, shelves[depth + 1], 0, SHELF);
                 boolean isRight = serve(end.program, slot, end.cells[Layout.ANSWER + slot], shelves[depth + 1]);
-                if (isRight && extendOrder(end, depth + 1, done | 1 << slot)) return true;
+                if (isRight && extendOrder(end, shelves, depth + 1, done | 1 << slot)) return true;
                 // A call without meaning changes nothing: it can as well come now as later.
                 if (end.program.meanings[end.program.routines[slot]] == 0) return false;
             }
