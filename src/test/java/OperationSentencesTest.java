@@ -366,6 +366,9 @@ public final class OperationSentencesTest extends Sentences {
         is("nothing is not 1", z.local(0, 5, 1), 0);
         FreeShelf w = after(2, 7, act(WRITE, 0, 0), act(SET, 5, 3), act(SWAP, 0, 0, 5), act(FENCE));
         word(w, 0, 1, 3, 0, 0);
+        FreeShelf emptied = after(2, 7, act(WRITE, 0, 0), act(SWAP, 0, 0, 3));
+        is("to nothing", emptied.word(0, 0), 0);
+        local(emptied, 5, 1, 1, 0, 0);
         FreeShelf marked = after(3, 7, act(WRITE, 0, 0), act(MARK, 0, 1), act(SWAP, 0, 0, 1), act(FENCE));
         is("another mark", marked.local(0, 5, 1), 0);
         // Values that have been given since the read: four of them, and the count is what it was.

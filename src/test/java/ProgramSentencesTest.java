@@ -592,6 +592,12 @@ public final class ProgramSentencesTest extends Sentences {
         is("the call is over", z.thread(0, 0), 1);
         is("no own operations", z.local(0, 0, 0), 0);
         is("no error", error(z), 0);
+        FreeShelf v = after(1, 3, act(SET, 1, 5), act(PLUS, 0, 1), act(RETURN, 0));
+        is("the call is over", v.answer(0, 0), 4);
+        for (int l = 0; l < 6; l++) local(v, l, 0, 0, 0, 0);
+        is("it is not begun again", v.thread(0, 1), 0);
+        is("no error", error(v), 0);
+        is("at no act", v.thread(0, 2), 0);
         FreeShelf w = after(1, 3, act(FENCE), act(PLUS, 0, 1), act(PLUS, 1, 1));
         is("an error at the end of a step", error(w), 1);
         is("after one of them", w.local(0, 0, 1), 4);
@@ -689,12 +695,22 @@ public final class ProgramSentencesTest extends Sentences {
         is("ordered memory", after(0, false, 1, 5, act(WRITE, 0, 0)).may(3), 0);
     }
 
-    /** The number of states of a thread with this routine, which has an argument of 5. */
+    /** The number of states of a thread with this routine, which has an argument of 5, the same for each thread. */
     private static int statesOf(int manner, boolean late, int[]... rows) {
-        FreeShelf x = Shelf.with(5, rows);
+        return statesOf(5, manner, late, rows);
+    }
+
+    private static int statesOf(int argument, int manner, boolean late, int[]... rows) {
+        FreeShelf x = Shelf.with(argument, rows);
         x.manner(manner);
         x.late(late);
-        return x.explore();
+        int states = x.explore();
+        for (int t = 1; t < 3; t++) {
+            x.clear();
+            x.call(t, 0, argument);
+            is("for thread " + t, x.explore(), states);
+        }
+        return states;
     }
 
     /** Two threads: one writes local l of a call with argument 0, the other does an act; then both are in a circle. */
@@ -720,7 +736,10 @@ public final class ProgramSentencesTest extends Sentences {
         // The place and the locals come back to what they were; the node does not.
         is("taken and free", statesOf(1, false, act(TAKE, 1), act(LET, 1), act(BLANK, 1), act(GO, 0)), 3);
         is("released, one more each time", statesOf(0, false, act(TAKE, 1), act(LET, 1), act(BLANK, 1), act(GO, 0)), 15);
-        is("the epoch increases for ever", statesOf(4, false, act(TAKE, 1), act(LET, 1), act(BLANK, 1), act(GO, 0)), SPENT);
+        is("taken, one more each time", statesOf(0, false, act(FENCE), act(TAKE, 1), act(BLANK, 1), act(GO, 0)), 14);
+        is("the epoch increases for ever", statesOf(4, false, act(TAKE, 1), act(LET, 1), act(LEAVE), act(BLANK, 1),
+            act(GO, 0)), SPENT);
+        is("no epoch", statesOf(1, false, act(TAKE, 1), act(LET, 1), act(LEAVE), act(BLANK, 1), act(GO, 0)), 4);
         holds("node 0 in epoch 0, node 1 in epoch 1, or the other way", differByOrder(4, 2));
         holds("without an epoch", !differByOrder(0, 2));
         holds("free with guards", !differByOrder(3, 0));
@@ -762,10 +781,77 @@ public final class ProgramSentencesTest extends Sentences {
         is("counts of locals", statesOf(2, false, act(WRITE, 0, 1), act(READ, 2, 0), act(GO, 0)), 9);
         is("guards", statesOf(0, false, act(GUARD, 0, 1), act(TAKE, 1), act(GUARD, 0, 1), act(GO, 2)), 4);
         is("the same guard again", statesOf(0, false, act(GUARD, 0, 0), act(GO, 0)), 2);
+        for (int guard = 0; guard < 2; guard++) {
+            holds("node 0 or none as a guard", differByTime(act(GUARD, guard, 1)));
+        }
+        for (int l : new int[] {0, 2, 3, 4, 5}) holds("node 0 or nothing in a local", differByTime(act(COPY, l, 1)));
+        for (int l = 0; l < 6; l++) holds("nothing with count 0 or 1", differByCount(2, l) && !differByCount(1, l));
+        is("begun or not", statesOf(0, false, act(FENCE), act(BLANK, 0), act(GO, 0)), 2);
+        is("over or not", statesOf(0, 0, false, act(RETURN, 0)), 2);
+        is("writes of nothing to global 0", statesOf(0, 0, true, act(WRITE, 0, 1), act(GO, 0)), 6);
+        holds("nothing that is left of it", !differByTime(act(FENCE)));
+        holds("inside with epoch 0 or 1", differByEpoch(act(ENTER)));
+        holds("not inside", !differByEpoch(act(LEAVE)));
+        holds("a write in the buffer, or in the word already", differByBuffer());
         is("inside", statesOf(0, false, act(ENTER), act(GO, 0)), 2);
         is("places", statesOf(0, false, act(FENCE), act(FENCE), act(FENCE), act(GO, 0)), 4);
         is("buffers", statesOf(0, true, act(WRITE, 0, 0), act(GO, 0)), 10);
         is("calls over, begun, and an error", statesOf(0, false, act(FENCE), act(LET, 0)), 3);
+    }
+
+    /** Whether it can be told, after an act, if thread 0 read node 0 before thread 1 wrote nothing over it. */
+    private static boolean differByTime(int[] row) {
+        FreeShelf x = Shelf.with(0, act(READ, 1, 0), row, act(FENCE), act(BLANK, 1), act(FENCE), act(GO, 4));
+        Shelf.routine(x, 1, act(WRITE, 0, 1), act(FENCE), act(GO, 1));
+        Shelf.routine(x, 2, act(TAKE, 1), act(WRITE, 0, 1), act(RETURN, 0));
+        x.call(1, 1, 0);
+        x.call(3, 2, 0);
+        x.explore();
+        int one = comeTo(x, 0, 0, 0, 1);
+        int other = comeTo(x, 1, 0, 0, 0);
+        if (row[0] == COPY) return comeTo(x, 0, 0, 1) != comeTo(x, 1, 0, 0);
+        holds("both are kept", one > 0 && other > 0);
+        return one != other;
+    }
+
+    /** Whether it can be told if thread 0 read nothing before or after thread 1 wrote nothing. */
+    private static boolean differByCount(int manner, int l) {
+        FreeShelf x = Shelf.with(0, act(READ, l, 0), act(FENCE), act(GO, 1));
+        Shelf.routine(x, 1, act(WRITE, 0, 1), act(FENCE), act(GO, 1));
+        x.call(1, 1, 0);
+        x.manner(manner);
+        x.explore();
+        return comeTo(x, 0, 1) != comeTo(x, 1, 0);
+    }
+
+    /** Whether it can be told if thread 0 did an act in epoch 0 or 1, which thread 2 does not let pass. */
+    private static boolean differByEpoch(int[] row) {
+        FreeShelf x = Shelf.with(0, row, act(FENCE), act(GO, 1));
+        Shelf.routine(x, 1, act(READ, 1, 0), act(LET, 1), act(FENCE), act(GO, 2));
+        Shelf.routine(x, 2, act(ENTER), act(FENCE), act(GO, 1));
+        Shelf.routine(x, 3, act(TAKE, 1), act(WRITE, 0, 1), act(RETURN, 0));
+        x.call(1, 1, 0);
+        x.call(2, 2, 0);
+        x.call(3, 3, 0);
+        x.manner(4);
+        x.explore();
+        int one = comeTo(x, 2, 0, 1, 1);
+        int other = comeTo(x, 2, 1, 1, 0);
+        x.go(one);
+        is("epoch", x.epoch(), 1);
+        x.go(other);
+        is("epoch", x.epoch(), 1);
+        return one != other;
+    }
+
+    /** Thread 0 writes what the word holds already; all that changes is its buffer. */
+    private static boolean differByBuffer() {
+        FreeShelf x = Shelf.with(5, act(WRITE, 0, 0), act(GO, 0));
+        Shelf.routine(x, 1, act(WRITE, 0, 0), act(RETURN, 0));
+        x.call(3, 1, 5);
+        x.late(true);
+        is("the first state, and none to four writes in the buffer", x.explore(), 6);
+        return comeTo(x, 0) != comeTo(x, 0, 3) && comeTo(x, 0, 3, 0) == comeTo(x, 0);
     }
 
     private static void statesByCalls() {

@@ -1152,9 +1152,7 @@ public final class PromiseSentencesTest extends Sentences {
         return x;
     }
 
-    private static void exploredEnds() {
-        FreeShelf x = gets(1);
-        is("complete", x.explore() > 0 ? 1 : 0, 1);
+    private static int endsThatDoNotAgree(FreeShelf x) {
         int ends = x.explored(1);
         int wrong = 0;
         for (int i = 0; i < ends; i++) {
@@ -1162,12 +1160,22 @@ public final class PromiseSentencesTest extends Sentences {
             if (x.agrees() == 0) wrong++;
         }
         holds("some agree, some do not", wrong > 0 && wrong < ends);
-        is("ends that do not agree", x.explored(2), wrong);
+        return wrong;
+    }
+
+    private static void exploredEnds() {
+        FreeShelf x = gets(1);
+        holds("complete", x.explore() > 0);
+        is("ends that do not agree", x.explored(2), endsThatDoNotAgree(x));
         is("with one answer of 5", x.answers(), 2);
-        x = gets(0);
+        x.moment(0, 0, false);
         x.explore();
-        is("without a model", x.explored(2), 0);
-        is("as many ends", x.explored(1), ends);
+        is("no end keeps the moments", x.explored(3), x.explored(1));
+        is("but some agree", x.explored(2), endsThatDoNotAgree(x));
+        x.model(0);
+        int states = x.explore();
+        is("without a model all agree", x.explored(2), 0);
+        is("states", x.explored(0), states);
         FreeShelf y = Shelf.with(5, act(FENCE), act(GO, 0));
         y.model(1);
         y.explore();
@@ -1210,6 +1218,12 @@ public final class PromiseSentencesTest extends Sentences {
             if (x.keeps() == 0) due[1] = end;
         }
         holds("not the first end", due[0] > x.first(6));
+        x.moment(0, 0, false);
+        x.explore();
+        is("without moments the first end", x.first(1), x.first(6));
+        holds("which agrees", x.first(0) > x.first(6));
+        x.moment(0, 0, true);
+        x.explore();
         is("the first that does not agree", x.first(0), due[0]);
         is("the first that does not keep the moments", x.first(1), due[1]);
     }

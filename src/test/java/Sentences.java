@@ -24,7 +24,11 @@ abstract class Sentences {
         present = quote;
         if (!QUOTED.add(quote)) fail("it is tested twice");
         int before = right + wrong;
-        test.run();
+        try {
+            test.run();
+        } catch (RuntimeException thrown) {
+            fail("threw " + thrown);
+        }
         if (right + wrong == before) fail("its test asks nothing");
     }
 
