@@ -1,4 +1,4 @@
-/** The document's own examples. */
+/** The examples of the document and of README.md. */
 public final class ExamplesTest {
     private static final Due DUE = new Due("ExamplesTest");
 
@@ -7,6 +7,8 @@ public final class ExamplesTest {
         example1();
         example2();
         example3();
+        readmeAdding();
+        readmeLostStep();
         DUE.close();
     }
 
@@ -74,5 +76,44 @@ public final class ExamplesTest {
         DUE.is("3: epoch()", x.epoch(), 1);
         DUE.is("3: word(0, 0)", x.word(0, 0), 2);
         DUE.is("3: step(3)", x.step(3), -2);
+    }
+
+    private static void readmeAdding() {
+        FreeShelf x = new FreeShelf();
+        x.act(0, 6, 0, 1, 0);
+        x.act(0, 13, 5, 0, 0);
+        x.means(0, 1);
+        x.model(3);
+        x.call(0, 0, 1);
+        x.call(1, 0, 1);
+        DUE.is("README 1: states", x.explore(), 17);
+        DUE.is("README 1: wrong", x.explored(2), 0);
+        x.begin();
+        x.run(4);
+        DUE.is("README 1: answer", x.answer(1, 0), 2);
+    }
+
+    private static void readmeLostStep() {
+        FreeShelf x = new FreeShelf();
+        x.act(0, 0, 1, 0, 0);
+        x.act(0, 26, 1, 1, 0);
+        x.act(0, 2, 0, 1, 0);
+        x.act(0, 13, 1, 0, 0);
+        x.means(0, 1);
+        x.model(3);
+        x.act(1, 2, 0, 0, 0);
+        x.act(1, 13, 0, 0, 0);
+        x.call(3, 1, 0);
+        x.call(0, 0, 1);
+        x.call(1, 0, 1);
+        DUE.is("README 2: states", x.explore(), 34);
+        DUE.is("README 2: ends", x.explored(1), 5);
+        DUE.is("README 2: wrong", x.explored(2), 1);
+        DUE.is("README 2: state", x.first(0), 31);
+        int[] walk = {0, 1, 0, 0, 1, 1, -4};
+        for (int i = 0; i < walk.length; i++) DUE.is("README 2: choice " + i, x.walk(31, i), walk[i]);
+        DUE.is("README 2: length", x.go(31), 6);
+        DUE.is("README 2: one", x.answer(0, 0), 1);
+        DUE.is("README 2: two", x.answer(1, 0), 1);
     }
 }

@@ -8,7 +8,7 @@ public final class ReferenceTest {
     private static final int PROGRAMS = 900;
 
     // Routines that work (and some that fail in a known way), to be mixed and varied. Rows: op, a, b, c.
-    private static final int[][][] KNOWN = {
+    static final int[][][] KNOWN = {
         // push and pop of a stack
         {{8, 1, 0, 0}, {3, 1, 1, 0}, {0, 2, 0, 0}, {3, 1, 0, 2}, {4, 0, 2, 1}, {20, 3, 1, 0}, {25, 5, 3, 8}, {24, 2, 0, 0},
             {13, 0, 0, 0}},
@@ -101,7 +101,7 @@ public final class ReferenceTest {
         x.means(r, program.means[r]);
     }
 
-    private static int[] anyAct(Random random) {
+    static int[] anyAct(Random random) {
         int op = random.nextInt(2) == 0 ? MEMORY[random.nextInt(MEMORY.length)] : 20 + random.nextInt(7);
         int few = random.nextInt(3);
         int local = random.nextInt(few == 0 ? 6 : 3);
